@@ -357,7 +357,7 @@ public final class RasterCover {
 
     /** One row of bytes as runs and single ones; it is shorter than 64, so none of them is too long to be told. */
     private static final class PackedRow {
-        private static final byte RUN_OF_ONE = 127;
+        private static final int RUN_OF_ONE = 127;
 
         private final byte[] signs;
         private int size = 0;
@@ -374,27 +374,26 @@ public final class RasterCover {
             for (int at = start; at < end; at++) {
                 if (at > start && bytes[at] == bytes[at - 1]) {
                     signs[head]--;
-                    afterSingle = false;
                 } else if (at + 1 < end && bytes[at] == bytes[at + 1]) {
                     head = size;
                     put(RUN_OF_ONE);
-                    put((byte) bytes[at]);
+                    put(bytes[at]);
                     afterSingle = false;
                 } else {
                     if (!afterSingle) {
                         head = size;
-                        put((byte) 0);
+                        put(0);
                     }
                     signs[head]++;
-                    put((byte) bytes[at]);
+                    put(bytes[at]);
                     afterSingle = true;
                 }
             }
         }
 
-        private void put(byte sign) {
+        private void put(int sign) {
             if (size < signs.length) {
-                signs[size] = sign;
+                signs[size] = (byte) sign;
                 size++;
             }
         }

@@ -85,6 +85,10 @@ public final class PromisesTest {
         Check.due("2: unchanged", r.cover(0, 0), 128);
         Check.due("2: places are cut", coverOf(0, 0, 1L << 40, 1L << 21, 0, Long.MAX_VALUE), 128);
         Check.due("2: places are cut below", coverOf(Long.MIN_VALUE, Long.MIN_VALUE, 256, 256, -1048576, 256), 128);
+        Check.due("2: at 1048576, not before", coverOf(1L << 40, 7, -1048558, 9, -1048558, 7), 1);
+        Check.due("2: at 1048576, not behind", coverOf(1L << 40, 7, -1048559, 9, -1048559, 7), 0);
+        Check.due("2: at -1048576, not before", coverOf(-1L << 40, 6, 524658, 9, 255, 9, 255, 6), 1);
+        Check.due("2: at -1048576, not behind", coverOf(-1L << 40, 6, 524660, 9, 256, 9, 256, 6), 0);
         Check.due("2: from end to end", coverOf(Long.MIN_VALUE, Long.MIN_VALUE, Long.MAX_VALUE, Long.MIN_VALUE,
                 Long.MAX_VALUE, Long.MAX_VALUE, Long.MIN_VALUE, Long.MAX_VALUE), 255);
     }
@@ -144,6 +148,10 @@ public final class PromisesTest {
         r.hair(0, 1024, 1024, 0);
         Check.due("4: as far across as up goes across", r.cover(0, 3) - r.cover(3, 0), 0);
         Check.due("4: with upright ends", r.cover(0, 3), 191);
+        r.end();
+        r.hair(256, 256, 768, 768);
+        Check.due("4: that is not upright", r.cover(0, 1), 0);
+        Check.due("4: but upwards thick", r.cover(1, 0), 32);
         for (int i = 8; i <= 96; i += 4) {
             r.hair(0, 0, i, 0);
         }
