@@ -80,7 +80,8 @@ public final class HairTest {
     }
 
     private static void dotDraws() {
-        Check.promise(4, "where both ends are one: (x - 128, y - 128), (x + 128, y - 128), (x + 128, y + 128), (x - 128, y + 128)");
+        Check.promise(4, "where both ends are one: (x - 128, y - 128), (x + 128, y - 128), (x + 128, y + 128),"
+                + " (x - 128, y + 128)");
         hairDue(640, 640, 640, 640, 512, 512, 768, 512, 768, 768, 512, 768);
         hairDue(0, 0, 0, 0, -128, -128, 128, -128, 128, 128, -128, 128);
         RasterCover r = new RasterCover(3, 3, 0);
@@ -124,13 +125,17 @@ public final class HairTest {
         }
     }
 
-    /** Which way a hair from (512, 512) to far below on the right was drawn: across it reaches above its end. */
+    /** Which way a hair between (512, 512) and far below on the right is drawn: across it reaches above that end. */
     private static void towardsDue(boolean across, long u, long v) {
-        RasterCover r = new RasterCover(3, 3, 0);
-        r.hair(512, 512, u, v);
-        String end = "to (" + u + ", " + v + ")";
-        Check.due(end + ", above its end", r.cover(2, 1) > 0, across);
-        Check.due(end + ", left of its end", r.cover(1, 2) > 0, !across);
+        RasterCover to = new RasterCover(3, 3, 0);
+        RasterCover from = new RasterCover(3, 3, 0);
+        to.hair(512, 512, u, v);
+        from.hair(u, v, 512, 512);
+        String end = "(" + u + ", " + v + ")";
+        Check.due("to " + end + ", above the other end", to.cover(2, 1) > 0, across);
+        Check.due("to " + end + ", left of the other end", to.cover(1, 2) > 0, !across);
+        Check.due("from " + end + ", above the other end", from.cover(2, 1) > 0, across);
+        Check.due("from " + end + ", left of the other end", from.cover(1, 2) > 0, !across);
     }
 
     private static void cutPlacesTell() {

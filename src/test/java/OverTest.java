@@ -59,7 +59,8 @@ public final class OverTest {
                 Check.due("of " + planes + ", the last plane", r.over(planes - 1, false), 0);
             }
         }
-        Check.throwing("without points there are planes, but no third of two", Check.NO_SUCH, () -> new RasterCover(0, 0, 2).over(2, true));
-        Check.due("the second of two", new RasterCover(0, 0, 2).over(1, true), 0);
+        RasterCover none = new RasterCover(0, 0, 2);
+        Check.due("without points there are planes", none.over(1, true), 0);
+        Check.throwing("but no third of two", Check.NO_SUCH, () -> none.over(2, true));
     }
 }

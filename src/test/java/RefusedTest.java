@@ -53,7 +53,8 @@ public final class RefusedTest {
         Shapes.all(want);
         Check.due(what + ", the fill of the clip", got.fill(0, 1, 255), want.fill(0, 1, 255));
         pointsDue(what + ", the clip filled", got, want);
-        Check.due(what + ", over", got.over(0, false) + 2 * got.over(1, false), want.over(0, false) + 2 * want.over(1, false));
+        Check.due(what + ", over, plane 0", got.over(0, false), want.over(0, false));
+        Check.due(what + ", over, plane 1", got.over(1, false), want.over(1, false));
         Check.due(what + ", fills", got.end(), want.end());
     }
 

@@ -63,7 +63,9 @@ public final class SameTest {
                 parts.fill(rule, 0, 255);
             }
             for (int i = 0; i < 28; i++) {
-                Check.due("rule " + rule + ", point " + i % 4 + ", " + i / 4, parts.point(i % 4, i / 4, 0), whole.point(i % 4, i / 4, 0));
+                int x = i % 4;
+                int y = i / 4;
+                Check.due("rule " + rule + ", point " + x + ", " + y, parts.point(x, y, 0), whole.point(x, y, 0));
             }
         }
     }

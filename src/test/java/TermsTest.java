@@ -21,6 +21,7 @@ public final class TermsTest {
         insideByRule0();
         insideByRule1();
         insideBesideTheSurface();
+        asManyCrossingsAsCanBe();
         unitsOfAPoint();
         coverIsRounded();
         clipAtFirst();
@@ -345,6 +346,22 @@ public final class TermsTest {
         Check.due("all turns before the surface are counted", r.cover(0, 0), 0);
     }
 
+    /** Each of a hundred edges crosses the first sub-row: 97 of them at 0, the others at 50, 100, and 150. */
+    private static void asManyCrossingsAsCanBe() {
+        Check.terms("INSIDE, from the left: between crossings");
+        RasterCover r = new RasterCover(1, 1, 1);
+        for (int rule = 0; rule <= 1; rule++) {
+            r.move(100, 0);
+            for (int i = 1; i <= 98; i++) {
+                r.line(0, i % 2 * 16);
+            }
+            Check.due("the last point, rule " + rule, r.line(200, 16), 100);
+            Check.due("two times fifty units", r.cover(0, 0), 6);
+            r.fill(rule, 0, 255);
+            Check.due("filled by rule " + rule, r.point(0, 0, 0), rule == 0 ? 6 : 12);
+        }
+    }
+
     private static void unitsOfAPoint() {
         Check.terms("In a point a sub-row is covered by as many units as are inside");
         RasterCover r = new RasterCover(3, 1, 0);
@@ -378,7 +395,8 @@ public final class TermsTest {
         Check.terms("COVER of a point is ((the sum of its sixteen sub-rows) * 255 + 2048) / 4096.");
         int[][] dues = {
             {0, 0}, {1, 0}, {8, 0}, {9, 1}, {24, 1}, {25, 2}, {40, 2}, {41, 3}, {256, 16}, {2031, 126}, {2032, 127},
-            {2047, 127}, {2048, 128}, {2049, 128}, {4071, 253}, {4072, 254}, {4087, 254}, {4088, 255}, {4095, 255}, {4096, 255},
+            {2047, 127}, {2048, 128}, {2049, 128}, {2305, 143}, {2306, 144}, {4071, 253}, {4072, 254},
+            {4087, 254}, {4088, 255}, {4095, 255}, {4096, 255},
         };
         for (int[] due : dues) {
             RasterCover r = new RasterCover(1, 1, 0);
