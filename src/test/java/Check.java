@@ -83,7 +83,7 @@ final class Check {
         }
         if (got == null || got.getClass() != want) {
             fail(what + " threw " + got + ", due is " + want.getName());
-        } else if (!writtenByUs(got)) {
+        } else if (thrownByTheMachine(got)) {
             fail(what + " was thrown by the machine: " + got);
         }
     }
@@ -95,10 +95,12 @@ final class Check {
         }
     }
 
-    /** The machine's own texts, or none, are not among those that the class throws with. */
-    private static boolean writtenByUs(RuntimeException e) {
+    /** What the machine throws has its own text, or stands in the library's code, or has no place at all. */
+    private static boolean thrownByTheMachine(RuntimeException e) {
         String text = String.valueOf(e.getMessage());
-        return text.startsWith("no such ") || text.equals("no point to draw a line from") || text.equals("the path is full");
+        StackTraceElement[] places = e.getStackTrace();
+        return text.contains("out of bounds for ") || places.length == 0
+                || !places[0].getClassName().matches("RasterCover(\\$.*)?");
     }
 
     private static void fail(String text) {
